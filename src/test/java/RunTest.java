@@ -52,6 +52,9 @@ public final class RunTest {
                 Expect.same("count " + t + " " + what, x.count(t, what), (t + 2) % 3 == what ? 3 : 0);
             }
         }
+        Expect.same("killed: no longest", x.count(0, 3), 0);
+        Expect.same("done in tick 3: longest", x.count(1, 3), 4);
+        Expect.same("broken: no longest", x.count(2, 3), 0);
         haltAtLastTick();
     }
 

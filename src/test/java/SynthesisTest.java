@@ -8,6 +8,7 @@ public final class SynthesisTest {
         tooLong();
         manySlots();
         modes();
+        afterInfeasible();
         Expect.end();
     }
 
@@ -107,5 +108,16 @@ public final class SynthesisTest {
         x.task(4, 1, 1, 0);
         Expect.same("and with a task more", x.synthesize(), 2);
         Expect.table("and with a task more", x, "0+1:1 1+1:0");
+    }
+
+    /** The synthesis before ended amid a job of task 1; nothing of it may be seen in the next one. */
+    private static void afterInfeasible() {
+        TabledExecutive x = of(t(48, 20, 20, 0), t(48, 20, 20, 0));
+        Expect.same("infeasible at first", x.synthesize(), TabledExecutive.INFEASIBLE);
+        x.clear();
+        x.task(4, 1, 1, 0);
+        x.task(4, 1, 1, 47);
+        Expect.same("then feasible", x.synthesize(), 2);
+        Expect.table("then feasible", x, "0+1:0 3+1:1");
     }
 }
