@@ -6,8 +6,16 @@ final class Expect {
 
     private static int wrong = 0;
     private static int seen = 0;
+    private static int sentences = 0;
+    private static String sentence = "";
 
     private Expect() {
+    }
+
+    /** The sentence of the document that the answers from here on are due to; a fault is told with it. */
+    static void sentence(String words) {
+        sentences++;
+        sentence = " [" + words + "]";
     }
 
     static void same(String what, long got, long want) {
@@ -74,11 +82,12 @@ final class Expect {
 
     static void tell(String fault) {
         wrong++;
-        System.out.println(fault);
+        System.out.println(fault + sentence);
     }
 
     static void end() {
-        System.out.println(seen + " answers looked at, " + wrong + " wrong");
+        String of = sentences == 0 ? "" : " for " + sentences + " sentences";
+        System.out.println(seen + " answers looked at" + of + ", " + wrong + " wrong");
         if (wrong != 0) {
             System.exit(1);
         }
